@@ -1,0 +1,126 @@
+import java.lang.reflect.Constructor;
+import java.lang.reflect.Field;
+import java.lang.reflect.Method;
+import java.lang.reflect.Modifier;
+import java.nio.file.Files;
+import java.nio.file.Path;
+import java.util.Arrays;
+import java.util.Set;
+import java.util.TreeSet;
+import java.util.regex.Matcher;
+import java.util.regex.Pattern;
+
+/** The public face, and those rules of LANGUAGE.md that can be seen from the text of the class. */
+public final class LanguageTest {
+    private static final Tester t = new Tester("LanguageTest");
+    private static final String[] FACE = {"boolean end(int)", "boolean green(int)", "boolean on()",
+        "boolean rule(int)", "boolean seed(int)", "boolean trust(int,int)", "boolean undo()", "int best(int,int)",
+        "int car(int)", "int chance(int)", "int crossing()", "int day(int)", "int days(int)", "int doubts(int)",
+        "int fault(int)", "int feed(int,int,int,int,int)", "int fits(int)", "int has(int)", "int hold()",
+        "int image()", "int kind(int,int)", "int later(int,int)", "int least()", "int letter(int,int,int)",
+        "int light(int)", "int octet(int)", "int see()", "int status(int)", "int walker(int,int)",
+        "int watched(int)", "long ask()"};
+
+    public static void main(String[] args) throws Exception {
+        face();
+        classes();
+        String source = withoutComments(Files.readString(Path.of("src/main/java/PressAndWait.java")));
+        words(source);
+        methods(source);
+        t.finish();
+    }
+
+    private static void face() {
+        Set<String> found = new TreeSet<>();
+        Set<String> names = new TreeSet<>();
+        for (Method m : PressAndWait.class.getDeclaredMethods()) {
+            if (Modifier.isPublic(m.getModifiers())) {
+                String types = Arrays.stream(m.getParameterTypes()).map(Class::getName)
+                    .reduce((a, b) -> a + "," + b).orElse("");
+                found.add(m.getReturnType().getName() + " " + m.getName() + "(" + types + ")");
+                names.add(m.getName());
+            }
+        }
+        t.due("the face is " + found, found.equals(new TreeSet<>(Arrays.asList(FACE))), true);
+        for (Method m : PressAndWait.class.getDeclaredMethods()) {
+            boolean hidden = Modifier.isPrivate(m.getModifiers());
+            t.due(m + " is public or private", hidden || Modifier.isPublic(m.getModifiers()), true);
+            t.due(m + " has a name of its own", hidden && names.contains(m.getName()), false);
+        }
+        for (Constructor<?> c : PressAndWait.class.getDeclaredConstructors()) {
+            t.due(c + " is public, without arguments", Modifier.isPublic(c.getModifiers())
+                && c.getParameterCount() == 0, true);
+        }
+        t.due("the class is public and final",
+            PressAndWait.class.getModifiers() & (Modifier.PUBLIC | Modifier.FINAL),
+            Modifier.PUBLIC | Modifier.FINAL);
+        for (Field f : PressAndWait.class.getDeclaredFields()) {
+            boolean constant = f.getName().equals("NONE") || f.getName().equals("NOTHING");
+            t.due(f + " is private, but for the constants", Modifier.isPrivate(f.getModifiers()), !constant);
+        }
+        t.due("NONE", PressAndWait.NONE, -1);
+        t.due("NOTHING", PressAndWait.NOTHING, -1000000000000000L);
+    }
+
+    private static void classes() {
+        Class<?>[] inside = PressAndWait.class.getDeclaredClasses();
+        t.due("some twelve classes", inside.length + 1 <= 12, true);
+        Class<?>[] all = Arrays.copyOf(inside, inside.length + 1);
+        all[inside.length] = PressAndWait.class;
+        for (Class<?> c : all) {
+            int fields = 0;
+            for (Field f : c.getDeclaredFields()) {
+                if (Modifier.isStatic(f.getModifiers())) {
+                    t.due(f + " is final", Modifier.isFinal(f.getModifiers()), true);
+                } else {
+                    fields++;
+                }
+            }
+            t.due(c + " has some twenty fields", fields <= 20, true);
+            t.due(c + " is static", c == PressAndWait.class || Modifier.isStatic(c.getModifiers()), true);
+            for (Method m : c.getDeclaredMethods()) {
+                t.due(m + " takes seven at most", m.getParameterCount() <= 7, true);
+            }
+        }
+    }
+
+    private static String withoutComments(String source) {
+        return source.replaceAll("(?s)/\\*.*?\\*/", "").replaceAll("//[^\n]*", "");
+    }
+
+    private static void words(String source) {
+        String[] banned = {"throw", "throws", "try", "catch", "finally", "synchronized", "assert", "instanceof",
+            "package", "protected", "native", "volatile", "Random", "System\\.(?!arraycopy)", "Thread", "->", "::",
+            "hashCode", "toString", "@Override", "var", "double", "float", "while \\(true", "for \\(;;"};
+        for (String word : banned) {
+            String pattern = Character.isLetter(word.charAt(0)) ? "\\b" + word + (word.matches("\\w+") ? "\\b" : "") : word;
+            t.due(word, Pattern.compile(pattern).matcher(source).find(), false);
+        }
+        for (String line : source.split("\n")) {
+            if (line.startsWith("import")) {
+                t.due(line, line.equals("import java.util.Arrays;"), true);
+            }
+            for (char c : line.toCharArray()) {
+                if (c < 32 || c > 126) {
+                    t.due("a sign " + (int) c, 1, 0);
+                }
+            }
+            t.due(line + " joins texts", line.contains("\" +") || line.contains("+ \""), false);
+        }
+    }
+
+    /** A method begins where its line ends in ") {", four or eight blanks in, and ends with such a }. */
+    private static void methods(String source) {
+        String[] lines = source.split("\n");
+        Matcher head = Pattern.compile("^( {4}| {8})(?! )[\\w\\[\\] ]+\\([^;]*\\) \\{$").matcher("");
+        for (int k = 0; k < lines.length; k++) {
+            if (head.reset(lines[k]).matches()) {
+                int end = k;
+                while (end < lines.length && !lines[end].equals(head.group(1) + "}")) {
+                    end++;
+                }
+                t.due(lines[k].trim() + " has sixty lines at most", end - k + 1 <= 60, true);
+            }
+        }
+    }
+}
