@@ -38,19 +38,14 @@ final class Telling {
     }
 
     Told test(int open, int size) {
-        return chain(open, size, 2);
+        return logic(open, size, 3);
     }
 
     Told sum(int open, int size) {
-        return chain(open, size, 0);
+        return arithmetic(open, size, 1);
     }
 
-    /** 3 levels of chains: of PARTS by * and /, of PRODUCTS by + and -, of FACTS by and, by or. */
-    private Told chain(int open, int size, int level) {
-        int kind = level >= 2 ? 3 : 1;
-        return level >= 2 ? logic(open, size, kind) : arithmetic(open, size, 1);
-    }
-
+    /** Level 3 is a chain by or of those of level 2, which is one by and of FACTS. */
     private Told logic(int open, int size, int level) {
         Told told = level == 3 ? logic(open, size, 2) : fact(open, size);
         for (int k = dice.nextInt(3) == 0 && size > 0 ? 1 + dice.nextInt(2) : 0; k > 0; k--) {
@@ -101,6 +96,7 @@ final class Telling {
         return told;
     }
 
+    /** Level 1 is a chain by + and - of those of level 0, which is one by * and / of PARTS. */
     private Told arithmetic(int open, int size, int level) {
         Told told = level == 1 ? arithmetic(open, size, 0) : part(open, size);
         for (int k = size > 0 ? dice.nextInt(3) : 0; k > 0; k--) {
