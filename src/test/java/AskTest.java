@@ -75,12 +75,10 @@ public final class AskTest {
     }
 
     private static void bad(int fault, String marked) {
-        int place = marked.indexOf('|');
-        String text = marked.substring(0, place) + marked.substring(place + 1);
         PressAndWait x = Tester.made(TEXT);
-        t.due(marked, Tester.ask(x, text), PressAndWait.NOTHING);
+        t.due(marked, Tester.ask(x, Tester.unmarked(marked)), PressAndWait.NOTHING);
         t.due("fault(0) of " + marked, x.fault(0), fault);
-        t.due("fault(1) of " + marked, x.fault(1), place);
+        t.due("fault(1) of " + marked, x.fault(1), marked.indexOf('|'));
         t.due("the tape is gone", x.feed(0, 0, 0, 0, 0), 20);
         t.due("status(1)", x.status(1), 0);
         t.due("the crossing stays", x.has(2), 4);

@@ -1,3 +1,5 @@
+import com.sun.management.ThreadMXBean;
+import java.lang.management.ManagementFactory;
 import java.lang.reflect.Constructor;
 import java.lang.reflect.Field;
 import java.lang.reflect.Method;
@@ -27,6 +29,7 @@ public final class LanguageTest {
         String source = withoutComments(Files.readString(Path.of("src/main/java/PressAndWait.java")));
         words(source);
         methods(source);
+        room();
         t.finish();
     }
 
@@ -121,6 +124,49 @@ public final class LanguageTest {
                 }
                 t.due(lines[k].trim() + " has sixty lines at most", end - k + 1 <= 60, true);
             }
+        }
+    }
+
+    /** All calls of a run live in one room: an object takes little of it, and no call takes any more. */
+    private static void room() {
+        ThreadMXBean thread = (ThreadMXBean) ManagementFactory.getThreadMXBean();
+        long[] bytes = new long[3];
+        for (int k = 0; k < 3; k++) {
+            long before = thread.getCurrentThreadAllocatedBytes();
+            PressAndWait x = new PressAndWait();
+            long made = thread.getCurrentThreadAllocatedBytes();
+            calls(x);
+            bytes[0] = made - before;
+            bytes[1] = thread.getCurrentThreadAllocatedBytes() - made;
+        }
+        t.due("a new object takes " + bytes[0] + " bytes", bytes[0] < 100000, true);
+        t.due("its calls take " + bytes[1] + " bytes", bytes[1] < 1000, true);
+    }
+
+    /** The dearest calls; the text is a crossing of one statement, the question is "often all". */
+    private static void calls(PressAndWait x) {
+        for (int k = 0; k < 20; k++) {
+            x.feed(0x6379636C, 0x65203130, 0x20677265, 0x656E2031, 0x2072756C);
+            x.feed(0x65203020, 0x6C656173, 0x7420303B, 0, 0);
+            x.end(32);
+            x.crossing();
+            x.day(0);
+            x.best(0, 0);
+            x.least();
+            x.hold();
+            x.later(29, 0);
+            x.fits(0);
+            x.watched(0);
+            x.green(2);
+            x.days(30);
+            x.chance(30);
+            x.undo();
+            x.image();
+            x.feed(0x6F667465, 0x6E20616C, 0x6C000000, 0, 0);
+            x.end(9);
+            x.ask();
+            x.see();
+            x.on();
         }
     }
 }

@@ -2,13 +2,18 @@ import java.util.ArrayList;
 import java.util.List;
 import java.util.Random;
 
-/** Promises 4 to 32 on random crossings: the class beside the plain model of the document. */
+/**
+ * Promises 4 to 32 on random crossings: the class beside the plain model of the document. No object is used
+ * for more than 512 calls, as behind them all is free.
+ */
 public final class ModelTest {
     private static final Tester t = new Tester("ModelTest");
+    /** None of call()'s takes more than what is left of 512 behind these. */
+    private static final int ENOUGH = 340;
     private static final String[] QUESTIONS = {"first", "last", "often", "total", "most", "least"};
 
     public static void main(String[] args) {
-        int runs = args.length > 0 ? Integer.parseInt(args[0]) : 250;
+        int runs = args.length > 0 ? Integer.parseInt(args[0]) : 600;
         long from = args.length > 1 ? Long.parseLong(args[1]) : 0;
         for (long run = from; run < from + runs && t.wrong() == 0; run++) {
             one(run);
@@ -19,6 +24,7 @@ public final class ModelTest {
     private static void one(long run) {
         Random dice = Tester.dice(run);
         PressAndWait x = new PressAndWait();
+        int before = t.calls();
         long seed = 1;
         for (int again = dice.nextInt(2); again >= 0; again--) {
             Model m = Model.random(dice, seed);
@@ -28,7 +34,8 @@ public final class ModelTest {
             String name = "run " + run + " [" + m.text + "] ";
             t.due(name + "crossing", Tester.crossing(x, m.text), m.statements);
             t.due(name + "fault", x.fault(0), 0);
-            for (int k = 0; k < 40 && t.wrong() == 0; k++) {
+            int most = again > 0 ? ENOUGH / 2 : ENOUGH;
+            for (int k = 0; t.calls() - before < most && t.wrong() == 0; k++) {
                 call(name + "call " + k + " ", x, m, dice);
             }
             seed = m.seed;
@@ -37,7 +44,7 @@ public final class ModelTest {
 
     private static void call(String name, PressAndWait x, Model m, Random dice) {
         switch (dice.nextInt(20)) {
-            case 0: wholeDay(name, x, m); break;
+            case 0: wholeDay(name, x, m, dice); break;
             case 1: best(name, x, m, dice); break;
             case 2: t.due(name + "least", x.least(), m.least()); break;
             case 3: t.due(name + "hold", x.hold(), m.hold()); break;
@@ -53,12 +60,13 @@ public final class ModelTest {
         }
     }
 
-    private static void wholeDay(String name, PressAndWait x, Model m) {
+    private static void wholeDay(String name, PressAndWait x, Model m, Random dice) {
         Model.OneDay d = m.today();
         for (int what = -1; what <= 6; what++) {
             t.due(name + "day(" + what + ")", x.day(what), m.told(d, what));
         }
-        for (int s = 0; s < 320; s++) {
+        int step = 9 + dice.nextInt(9);
+        for (int s = dice.nextInt(step); s < 320; s += step) {
             t.due(name + "light(" + s + ")", x.light(s), s >= 300 ? -1 : d.green[s] ? 1 : 0);
             t.due(name + "car(" + s + ")", x.car(s), m.carIn(s, m.day) ? 1 : 0);
         }

@@ -63,137 +63,117 @@ public final class TextTest {
         t.due("the tape is gone with a fault, too", x.feed(0, 0, 0, 0, 0), 20);
     }
 
-    private static void good(int statements, String text) {
-        PressAndWait x = new PressAndWait();
-        t.due(text, Tester.crossing(x, text), statements);
-        t.due("fault(0) of " + text, x.fault(0), 0);
-        t.due("fault(1) of " + text, x.fault(1), -1);
-        t.due("status(1) of " + text, x.status(1), 0);
-    }
-
-    /** The place of the FAULT is marked with | in the text. */
-    private static void bad(int fault, String marked) {
-        int place = marked.indexOf('|');
-        String text = marked.substring(0, place) + marked.substring(place + 1);
-        PressAndWait x = new PressAndWait();
-        t.due(marked, Tester.crossing(x, text), -1);
-        t.due("fault(0) of " + marked, x.fault(0), fault);
-        t.due("fault(1) of " + marked, x.fault(1), place);
-        t.due("status(1) of " + marked, x.status(1), 1);
-        t.due("has(0) of " + marked, x.has(0), 0);
-    }
-
     private static void goodTexts() {
-        good(1, FIRST);
-        good(1, "\n cycle\n20 green 6\nrule 0 least 5 \n;\n ");
-        good(1, "cycle 10 green 9 rule 2 least 99;");
-        good(1, "cycle 120 green 60 rule 1 least 0;");
-        good(1, "cycle 0061 green 0060 rule 0001 least 0000;");
-        good(3, FIRST + "kind first calm 0 pace 1 trusts 0;kind abcdef calm 99 pace 20 trusts 9;");
-        good(4, KIND + "comes often is k at 0;comes z is k at 199;");
-        good(4, FIRST + "away 0;away 100;away 7;");
-        good(4, FIRST + "car all;red all;learns 0;");
-        good(2, FIRST + "car[phase<3]or not all and(second)>day;");
-        good(2, FIRST + "car min(1,second)+max(day,phase)*2-3/4=0 or 9999>0000;");
-        good(2, FIRST + "red waited+calm*pace-trusts/gap=reds and second<day;");
-        good(2, FIRST + "learns waited+calm*pace-trusts/second-day;");
-        good(2, FIRST + "red not not not not not not all;");
-        good(2, FIRST + "red [[[[[[all]]]]]]and[[[[[[all]]]]]];");
-        good(2, FIRST + "learns ((((((1))))))+((((((1))))));");
-        good(2, FIRST + "red not [not [not (1)=1]]and not not not[[[1=1]]];");
-        good(2, FIRST + "red min(min(min(min(min(min(1,2),2),2),2),2),2)<max(max(1,2),max(3,4));");
+        t.good(1, FIRST);
+        t.good(1, "\n cycle\n20 green 6\nrule 0 least 5 \n;\n ");
+        t.good(1, "cycle 10 green 9 rule 2 least 99;");
+        t.good(1, "cycle 120 green 60 rule 1 least 0;");
+        t.good(1, "cycle 0061 green 0060 rule 0001 least 0000;");
+        t.good(3, FIRST + "kind first calm 0 pace 1 trusts 0;kind abcdef calm 99 pace 20 trusts 9;");
+        t.good(4, KIND + "comes often is k at 0;comes z is k at 199;");
+        t.good(4, FIRST + "away 0;away 100;away 7;");
+        t.good(4, FIRST + "car all;red all;learns 0;");
+        t.good(2, FIRST + "car[phase<3]or not all and(second)>day;");
+        t.good(2, FIRST + "car min(1,second)+max(day,phase)*2-3/4=0 or 9999>0000;");
+        t.good(2, FIRST + "red waited+calm*pace-trusts/gap=reds and second<day;");
+        t.good(2, FIRST + "learns waited+calm*pace-trusts/second-day;");
+        t.good(2, FIRST + "red not not not not not not all;");
+        t.good(2, FIRST + "red [[[[[[all]]]]]]and[[[[[[all]]]]]];");
+        t.good(2, FIRST + "learns ((((((1))))))+((((((1))))));");
+        t.good(2, FIRST + "red not [not [not (1)=1]]and not not not[[[1=1]]];");
+        t.good(2, FIRST + "red min(min(min(min(min(min(1,2),2),2),2),2),2)<max(max(1,2),max(3,4));");
         StringBuilder many = new StringBuilder(FIRST);
         for (int k = 1; k < 80; k++) {
             many.append("away 1;");
         }
-        good(80, many.toString());
-        good(80, many + " \n");
+        t.good(80, many.toString());
+        t.good(80, many + " \n");
         StringBuilder deepSum = new StringBuilder(FIRST + "learns 1");
         while (deepSum.length() < 1590) {
             deepSum.append("+1");
         }
-        good(2, deepSum + ";");
+        t.good(2, deepSum + ";");
     }
 
     private static void wrongTexts() {
-        bad(1, "|");
-        bad(1, " \n |");
-        bad(1, "|x;");
-        bad(1, "|;");
-        bad(1, "|cycl 20");
-        bad(1, "|cyclee 20");
-        bad(1, "|Cycle 20");
-        bad(1, "|kind k calm 1 pace 2 trusts 3;");
-        bad(1, "cycle|");
-        bad(1, "cycle  |");
-        bad(1, "cycle |green");
-        bad(1, "cycle |-5");
-        bad(1, "cycle 20|");
-        bad(1, "cycle 20 |grean 6");
-        bad(1, "cycle 0020|0");
-        bad(1, "cycle 9999|9 green");
-        bad(1, "cycle|20 green 6");
-        bad(1, "cycle 20|green 6");
-        bad(1, "cycle 20 green 6 rule 0 least 5|");
-        bad(1, "cycle 20 green 6 rule 0 least 5 |5;");
-        bad(1, "cycle 20 green 6 rule 0 least 5 |kind");
-        bad(1, FIRST + "|;");
-        bad(1, FIRST + "|cycle 20 green 6 rule 0 least 5;");
-        bad(1, FIRST + "|carx all;");
-        bad(1, FIRST + "|second;");
-        bad(1, FIRST + "|\t");
-        bad(1, FIRST + "|7");
-        bad(1, FIRST + "kind |calm calm 1");
-        bad(1, FIRST + "kind |max calm 1");
-        bad(1, FIRST + "kind |7");
-        bad(1, FIRST + "kind abcdef|g calm 1");
-        bad(1, FIRST + "kind abcdef|ghij calm 1");
-        bad(1, FIRST + "kind second|s calm 1");
-        bad(1, FIRST + "kind a|7 calm 1");
-        bad(1, FIRST + "kind |A calm 1");
-        bad(1, FIRST + "kind |");
-        bad(1, FIRST + "kind a|");
-        bad(1, FIRST + "kind a |kalm 1");
-        bad(1, FIRST + "kind a calm|1");
-        bad(1, KIND + "comes w is |is at 1;");
-        bad(1, KIND + "comes w |k at 1;");
-        bad(1, KIND + "comes w is abcdef|g at 1;");
-        bad(1, KIND + "comes w is k |1");
-        bad(1, KIND + "comes w is k at 1 |2;");
-        bad(1, FIRST + "away |x");
-        bad(1, FIRST + "car |;");
-        bad(1, FIRST + "car 1|;");
-        bad(1, FIRST + "car 1<|;");
-        bad(1, FIRST + "car 1<2 |3;");
-        bad(1, FIRST + "car 1<2|<3;");
-        bad(1, FIRST + "car 1<|=2;");
-        bad(1, FIRST + "car 1<2 and |and;");
-        bad(1, FIRST + "car 1<2 |alland;");
-        bad(1, FIRST + "car |alland 1<2;");
-        bad(1, FIRST + "car 1<2|and 1<2;");
-        bad(1, FIRST + "car 1<2 and|1<2;");
-        bad(1, FIRST + "car not|1<2;");
-        bad(1, FIRST + "car (1|<");
-        bad(1, FIRST.substring(0, 31) + "|(");
-        bad(1, FIRST + "car (1|<2);");
-        bad(1, FIRST + "car [1<2|);");
-        bad(1, FIRST + "car [1|];");
-        bad(1, FIRST + "car all|<1;");
-        bad(1, FIRST + "car min |1;");
-        bad(1, FIRST + "car min(1|);");
-        bad(1, FIRST + "car min(1,2|,3)<1;");
-        bad(1, FIRST + "car 1234|5<1;");
-        bad(1, FIRST + "car 1234|a<1;");
-        bad(1, FIRST + "car phase |second<1;");
-        bad(1, FIRST + "car second<|-1;");
-        bad(1, FIRST + "car |k<1;");
-        bad(1, FIRST + "car 1<2|");
-        bad(1, FIRST + "car 1<2 or |");
-        bad(1, FIRST + "learns 1|<2;");
-        bad(1, FIRST + "learns |all;");
-        bad(1, FIRST + "learns |not 1;");
-        bad(1, FIRST + "learns |[1];");
-        bad(1, FIRST + "red |kind 0=1;");
+        t.bad(1, "|");
+        t.bad(1, " \n |");
+        t.bad(1, "|x;");
+        t.bad(1, "|;");
+        t.bad(1, "|cycl 20");
+        t.bad(1, "|cyclee 20");
+        t.bad(1, "|Cycle 20");
+        t.bad(1, "|kind k calm 1 pace 2 trusts 3;");
+        t.bad(1, "cycle|");
+        t.bad(1, "cycle  |");
+        t.bad(1, "cycle |green");
+        t.bad(1, "cycle |-5");
+        t.bad(1, "cycle 20|");
+        t.bad(1, "cycle 20 |grean 6");
+        t.bad(1, "cycle 0020|0");
+        t.bad(1, "cycle 9999|9 green");
+        t.bad(1, "cycle|20 green 6");
+        t.bad(1, "cycle 20|green 6");
+        t.bad(1, "cycle 20 green 6 rule 0 least 5|");
+        t.bad(1, "cycle 20 green 6 rule 0 least 5 |5;");
+        t.bad(1, "cycle 20 green 6 rule 0 least 5 |kind");
+        t.bad(1, FIRST + "|;");
+        t.bad(1, FIRST + "|cycle 20 green 6 rule 0 least 5;");
+        t.bad(1, FIRST + "|carx all;");
+        t.bad(1, FIRST + "|second;");
+        t.bad(1, FIRST + "|\t");
+        t.bad(1, FIRST + "|7");
+        t.bad(1, FIRST + "kind |calm calm 1");
+        t.bad(1, FIRST + "kind |max calm 1");
+        t.bad(1, FIRST + "kind |7");
+        t.bad(1, FIRST + "kind abcdef|g calm 1");
+        t.bad(1, FIRST + "kind abcdef|ghij calm 1");
+        t.bad(1, FIRST + "kind second|s calm 1");
+        t.bad(1, FIRST + "kind a|7 calm 1");
+        t.bad(1, FIRST + "kind |A calm 1");
+        t.bad(1, FIRST + "kind |");
+        t.bad(1, FIRST + "kind a|");
+        t.bad(1, FIRST + "kind a |kalm 1");
+        t.bad(1, FIRST + "kind a calm|1");
+        t.bad(1, KIND + "comes w is |is at 1;");
+        t.bad(1, KIND + "comes w |k at 1;");
+        t.bad(1, KIND + "comes w is abcdef|g at 1;");
+        t.bad(1, KIND + "comes w is k |1");
+        t.bad(1, KIND + "comes w is k at 1 |2;");
+        t.bad(1, FIRST + "away |x");
+        t.bad(1, FIRST + "car |;");
+        t.bad(1, FIRST + "car 1|;");
+        t.bad(1, FIRST + "car 1<|;");
+        t.bad(1, FIRST + "car 1<2 |3;");
+        t.bad(1, FIRST + "car 1<2|<3;");
+        t.bad(1, FIRST + "car 1<|=2;");
+        t.bad(1, FIRST + "car 1<2 and |and;");
+        t.bad(1, FIRST + "car 1<2 |alland;");
+        t.bad(1, FIRST + "car |alland 1<2;");
+        t.bad(1, FIRST + "car 1<2|and 1<2;");
+        t.bad(1, FIRST + "car 1<2 and|1<2;");
+        t.bad(1, FIRST + "car not|1<2;");
+        t.bad(1, FIRST + "car (1|<");
+        t.bad(1, FIRST.substring(0, 31) + "|(");
+        t.bad(1, FIRST + "car (1|<2);");
+        t.bad(1, FIRST + "car [1<2|);");
+        t.bad(1, FIRST + "car [1|];");
+        t.bad(1, FIRST + "car all|<1;");
+        t.bad(1, FIRST + "car min |1;");
+        t.bad(1, FIRST + "car min(1|);");
+        t.bad(1, FIRST + "car min(1,2|,3)<1;");
+        t.bad(1, FIRST + "car 1234|5<1;");
+        t.bad(1, FIRST + "car 1234|a<1;");
+        t.bad(1, FIRST + "car phase |second<1;");
+        t.bad(1, FIRST + "car second<|-1;");
+        t.bad(1, FIRST + "car |k<1;");
+        t.bad(1, FIRST + "car 1<2|");
+        t.bad(1, FIRST + "car 1<2 or |");
+        t.bad(1, FIRST + "learns 1|<2;");
+        t.bad(1, FIRST + "learns |all;");
+        t.bad(1, FIRST + "learns |not 1;");
+        t.bad(1, FIRST + "learns |[1];");
+        t.bad(1, FIRST + "red |kind 0=1;");
         wordsWhereTheyAreNot("car", "waited calm pace trusts gap reds number went harm");
         wordsWhereTheyAreNot("red", "phase number went harm");
         wordsWhereTheyAreNot("learns", "phase gap reds number went harm");
@@ -201,54 +181,54 @@ public final class TextTest {
 
     private static void wordsWhereTheyAreNot(String statement, String words) {
         for (String word : words.split(" ")) {
-            bad(1, FIRST + statement + " 1+|" + word + ";");
+            t.bad(1, FIRST + statement + " 1+|" + word + ";");
         }
     }
 
     private static void wrongNumbers() {
-        bad(2, "cycle |9 green");
-        bad(2, "cycle |121 green");
-        bad(2, "cycle |9999");
-        bad(2, "cycle |9green");
-        bad(2, "cycle 20 green |0 rule");
-        bad(2, "cycle 20 green |20");
-        bad(2, "cycle 120 green |61");
-        bad(2, "cycle 20 green 6 rule |3");
-        bad(2, "cycle 20 green 6 rule 0 least |100");
-        bad(2, FIRST + "kind k calm |100 pace");
-        bad(2, FIRST + "kind k calm 1 pace |0");
-        bad(2, FIRST + "kind k calm 1 pace |21;");
-        bad(2, FIRST + "kind k calm 1 pace 2 trusts |10;");
-        bad(2, KIND + "comes w is k at |200;");
-        bad(2, FIRST + "away |101;");
+        t.bad(2, "cycle |9 green");
+        t.bad(2, "cycle |121 green");
+        t.bad(2, "cycle |9999");
+        t.bad(2, "cycle |9green");
+        t.bad(2, "cycle 20 green |0 rule");
+        t.bad(2, "cycle 20 green |20");
+        t.bad(2, "cycle 120 green |61");
+        t.bad(2, "cycle 20 green 6 rule |3");
+        t.bad(2, "cycle 20 green 6 rule 0 least |100");
+        t.bad(2, FIRST + "kind k calm |100 pace");
+        t.bad(2, FIRST + "kind k calm 1 pace |0");
+        t.bad(2, FIRST + "kind k calm 1 pace |21;");
+        t.bad(2, FIRST + "kind k calm 1 pace 2 trusts |10;");
+        t.bad(2, KIND + "comes w is k at |200;");
+        t.bad(2, FIRST + "away |101;");
     }
 
     private static void wrongNames() {
-        bad(3, KIND + "kind |k calm 1");
-        bad(3, KIND + "comes |k is k at 1;");
-        bad(3, KIND + "comes w is |w at 1;");
-        bad(3, KIND + "comes w is |kk at 1;");
-        bad(3, KIND + "comes v is k at 1;comes w is |v at 1;");
-        bad(3, KIND + "comes v is k at 1;comes |v is k at 1;");
-        bad(3, KIND + "comes v is k at 1;kind |v calm 1");
-        bad(3, FIRST + "comes w is |k at 1;kind k calm 1 pace 2 trusts 3;");
-        bad(3, KIND + "comes w is |abcdef7");
+        t.bad(3, KIND + "kind |k calm 1");
+        t.bad(3, KIND + "comes |k is k at 1;");
+        t.bad(3, KIND + "comes w is |w at 1;");
+        t.bad(3, KIND + "comes w is |kk at 1;");
+        t.bad(3, KIND + "comes v is k at 1;comes w is |v at 1;");
+        t.bad(3, KIND + "comes v is k at 1;comes |v is k at 1;");
+        t.bad(3, KIND + "comes v is k at 1;kind |v calm 1");
+        t.bad(3, FIRST + "comes w is |k at 1;kind k calm 1 pace 2 trusts 3;");
+        t.bad(3, KIND + "comes w is |abcdef7");
         // What is the start of a name, or goes on behind it, is another one.
-        good(5, FIRST + "kind ab calm 1 pace 2 trusts 3;kind a calm 1 pace 2 trusts 3;"
+        t.good(5, FIRST + "kind ab calm 1 pace 2 trusts 3;kind a calm 1 pace 2 trusts 3;"
             + "kind abc calm 1 pace 2 trusts 3;comes b is a at 1;");
     }
 
     private static void tooDeep() {
-        bad(4, FIRST + "red not not not not not not |not all;");
-        bad(4, FIRST + "red [[[[[[|[all;");
-        bad(4, FIRST + "learns ((((((|(1;");
-        bad(4, FIRST + "red not [not [not (|(1)=1]]and;");
-        bad(4, FIRST + "learns min(1,max(1,min(1,max(1,min(1,max(1,min|(1");
-        bad(4, FIRST + "red not 1=(((((|(1");
-        bad(4, FIRST + "red all and not not not not not not 1=|(1");
-        good(2, FIRST + "red not not not not not not 1=1 and not not not not not not 1=1;");
-        bad(1, FIRST + "learns ((((((1|(1;");
-        bad(1, FIRST + "red [[[[[[1|[;");
+        t.bad(4, FIRST + "red not not not not not not |not all;");
+        t.bad(4, FIRST + "red [[[[[[|[all;");
+        t.bad(4, FIRST + "learns ((((((|(1;");
+        t.bad(4, FIRST + "red not [not [not (|(1)=1]]and;");
+        t.bad(4, FIRST + "learns min(1,max(1,min(1,max(1,min(1,max(1,min|(1");
+        t.bad(4, FIRST + "red not 1=(((((|(1");
+        t.bad(4, FIRST + "red all and not not not not not not 1=|(1");
+        t.good(2, FIRST + "red not not not not not not 1=1 and not not not not not not 1=1;");
+        t.bad(1, FIRST + "learns ((((((1|(1;");
+        t.bad(1, FIRST + "red [[[[[[1|[;");
     }
 
     private static void tooMany() {
@@ -256,26 +236,26 @@ public final class TextTest {
         for (char c = 'a'; c < 'g'; c++) {
             kinds.append("kind ").append(c).append(" calm 1 pace 2 trusts 3;");
         }
-        good(7, kinds.toString());
-        bad(5, kinds + "|kind x calm");
-        bad(5, kinds + " \n|kind");
+        t.good(7, kinds.toString());
+        t.bad(5, kinds + "|kind x calm");
+        t.bad(5, kinds + " \n|kind");
         StringBuilder walkers = new StringBuilder(KIND);
         for (char c = 'l'; c < 'x'; c++) {
             walkers.append("comes ").append(c).append(" is k at 1;");
         }
-        good(14, walkers.toString());
-        bad(5, walkers + "|comes x is k");
-        bad(5, FIRST + "car all;|car all;");
-        bad(5, FIRST + "red all;car all;|red");
-        bad(5, FIRST + "learns 0;|learns x");
+        t.good(14, walkers.toString());
+        t.bad(5, walkers + "|comes x is k");
+        t.bad(5, FIRST + "car all;|car all;");
+        t.bad(5, FIRST + "red all;car all;|red");
+        t.bad(5, FIRST + "learns 0;|learns x");
         StringBuilder many = new StringBuilder(FIRST);
         for (int k = 1; k < 80; k++) {
             many.append("away 1;");
         }
-        bad(5, many + "|away 1;");
-        bad(5, many + " |x");
-        bad(5, many + "|;");
-        bad(5, many + "|cycle");
+        t.bad(5, many + "|away 1;");
+        t.bad(5, many + " |x");
+        t.bad(5, many + "|;");
+        t.bad(5, many + "|cycle");
     }
 
     private static void whatStays() {
