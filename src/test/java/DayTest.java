@@ -31,7 +31,8 @@ public final class DayTest {
     }
 
     private static void byTheClock() {
-        PressAndWait x = Tester.made(Texts.first(90, 40, 0, 5) + Texts.kind("k", 0, 5, 1) + Texts.come("k", 0, 35, 36, 40, 41, 199));
+        PressAndWait x = Tester.made(Texts.first(90, 40, 0, 5) + Texts.kind("k", 0, 5, 1)
+            + Texts.come("k", 0, 35, 36, 40, 41, 199));
         Looks.greenIn(t, "clock", x, 0, 39, 90, 129, 180, 219, 270, 299);
         // 35 has five seconds of green left, 36 has four; 40 comes behind a green second.
         Looks.leaves(t, "clock", x, 0, 35, 90, 90, 90, 199);
@@ -104,7 +105,8 @@ public final class DayTest {
     }
 
     private static void goingAtRed() {
-        PressAndWait x = Tester.made(Texts.first(50, 4, 0, 0) + Texts.kind("k", 3, 5, 0) + Texts.come("k", 0, 10) + "red waited>calm;");
+        PressAndWait x = Tester.made(Texts.first(50, 4, 0, 0) + Texts.kind("k", 3, 5, 0) + Texts.come("k", 0, 10)
+            + "red waited>calm;");
         // Also by green, when it does not last.
         Looks.leaves(t, "red", x, 4, 14);
         Looks.dayIs(t, "red", x, 8, 2, 0, 0, 6, 0);
@@ -116,10 +118,12 @@ public final class DayTest {
         Looks.dayIs(t, "who can cross does not go", x, 0, 0, 0, 0, 5, 0);
         x = Tester.made(Texts.first(50, 4, 0, 0) + Texts.kind("k", 3, 5, 0) + Texts.come("k", 10));
         Looks.dayIs(t, "without red never", x, 290, 0, 0, 1, 6, 0);
-        x = Tester.made(Texts.first(50, 4, 0, 0) + Texts.kind("k", 3, 5, 0) + Texts.come("k", 10, 9, 10) + "red second>9 and reds<2;");
+        x = Tester.made(Texts.first(50, 4, 0, 0) + Texts.kind("k", 3, 5, 0) + Texts.come("k", 10, 9, 10)
+            + "red second>9 and reds<2;");
         // By numbers: the one who came last goes first.
         Looks.leaves(t, "by numbers", x, 10, 10, -1);
-        x = Tester.made(Texts.first(50, 4, 0, 0) + Texts.kind("k", 3, 5, 0) + Texts.come("k", 10, 10, 10) + "red reds<1 and second=10 or reds=1 and second=11;");
+        x = Tester.made(Texts.first(50, 4, 0, 0) + Texts.kind("k", 3, 5, 0) + Texts.come("k", 10, 10, 10)
+            + "red reds<1 and second=10 or reds=1 and second=11;");
         Looks.leaves(t, "reds", x, 10, 11, -1);
     }
 
@@ -140,7 +144,8 @@ public final class DayTest {
             t.due("goes at 299", x.walker(0, 2), 299);
             t.due("HARMED by " + run[0] + " with " + run[1], x.walker(0, 5), run[2]);
         }
-        PressAndWait x = Tester.made(Texts.first(120, 4, 0, 0) + Texts.kind("k", 0, 2, 0) + Texts.come("k", 0) + "car all;red all;");
+        PressAndWait x = Tester.made(Texts.first(120, 4, 0, 0) + Texts.kind("k", 0, 2, 0) + Texts.come("k", 0)
+            + "car all;red all;");
         t.due("who crosses is not HARMED", x.day(2), 0);
     }
 

@@ -74,7 +74,8 @@ public final class Promises10To15Test {
     }
 
     private static void day() {
-        t.says("Promise 12", "Of this DAY: 0 SECONDS waited, 1 who GO, 2 who are HARMED, 3 who have not crossed, 4 greens for NOBODY, 5 who press.");
+        t.says("Promise 12", "Of this DAY: 0 SECONDS waited, 1 who GO, 2 who are HARMED, 3 who have not crossed, 4 "
+            + "greens for NOBODY, 5 who press.");
         Looks.dayIs(t, "nobody", Tester.made(Texts.first(10, 1, 1, 0)), 0, 0, 0, 0, 0, 0);
         String kind = Texts.kind("k", 0, 20, 1);
         Looks.dayIs(t, "the longest", Tester.made(Texts.first(10, 1, 1, 0) + kind + Texts.twelve("k", 0)), 3600, 0, 0, 12, 1, 12);
@@ -95,7 +96,8 @@ public final class Promises10To15Test {
     }
 
     private static void best() {
-        t.says("Promise 13", "BEST, so many HARMED at most (0 .. 12): the RULE (what 0), the green (1), what is waited (2).");
+        t.says("Promise 13", "BEST, so many HARMED at most (0 .. 12): the RULE (what 0), the green (1), what is waited "
+            + "(2).");
         PressAndWait x = Tester.made(Texts.first(120, 1, 0, 0) + Texts.kind("k", 0, 1, 0)
             + Texts.come("k", 0, 1, 2, 3, 4, 5, 6, 7, 8, 9, 10, 11) + "car all;red all;");
         int[][] want = {{0, 0, 12, 0}, {1, 0, 11, 0}, {10, 0, 2, 0}, {11, 0, 1, 0}, {12, 0, 1, 0}};

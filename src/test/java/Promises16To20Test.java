@@ -3,7 +3,8 @@ public final class Promises16To20Test {
     private static final Tester t = new Tester("Promises16To20Test");
     private static final int MIN = Integer.MIN_VALUE;
     private static final int MAX = Integer.MAX_VALUE;
-    private static final String LEARNING = Texts.first(60, 10, 1, 0) + Texts.kind("k", 0, 5, 2) + Texts.come("k", 20) + "learns 0-1;";
+    private static final String LEARNING = Texts.first(60, 10, 1, 0) + Texts.kind("k", 0, 5, 2) + Texts.come("k", 20)
+        + "learns 0-1;";
 
     public static void main(String[] args) {
         later();
@@ -188,7 +189,8 @@ public final class Promises16To20Test {
     }
 
     private static void fits() {
-        t.says("Promise 19", "RULES and greens by what is SEEN (all, if nothing is): how many (what 0), RULES, as bits (1), the least green (2; NONE without).");
+        t.says("Promise 19", "RULES and greens by what is SEEN (all, if nothing is): how many (what 0), RULES, as bits "
+            + "(1), the least green (2; NONE without).");
         fitsAre("nothing is SEEN", Tester.made(Texts.first(120, 1, 0, 0)), 60, 7, 1);
         fitsAre("nothing is SEEN, the shortest cycle", Tester.made(Texts.first(10, 1, 0, 0)), 27, 7, 1);
         PressAndWait x = Tester.made(Texts.first(60, 5, 0, 0) + Texts.kind("k", 0, 5, 1) + Texts.come("k", 12));

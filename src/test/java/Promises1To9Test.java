@@ -55,7 +55,8 @@ public final class Promises1To9Test {
     }
 
     private static void feed() {
-        t.says("Promise 2", "Twenty bytes come behind those on the tape, of each number the highest first: how many there are;");
+        t.says("Promise 2", "Twenty bytes come behind those on the tape, of each number the highest first: how many "
+            + "there are;");
         PressAndWait x = new PressAndWait();
         t.due("the first", x.feed(0x6379636C, 0x65203130, 0x20677265, 0x656E2031, 0x2072756C), 20);
         t.due("the second", x.feed(0x65203020, 0x6C656173, 0x7420303B, -1, Integer.MIN_VALUE), 40);
@@ -170,7 +171,8 @@ public final class Promises1To9Test {
     }
 
     private static void refusedCrossing() {
-        t.says("Promise 4", "NONE, refused (1), with a FAULT (all stays; one without a STATEMENT has FAULT 1 at its length).");
+        t.says("Promise 4", "NONE, refused (1), with a FAULT (all stays; one without a STATEMENT has FAULT 1 at its "
+            + "length).");
         String[] texts = {"", " ", "x", "cycle 9", Texts.PLAIN + "kind k calm 1 pace 2 trusts 3;kind k", FULL + "kind",
             FULL + "learns (((((((", FULL + "car all;red all;car", "cycle 30 green 5 rule 2 least 8;car all;red all;learns 5;x"};
         for (String text : texts) {
@@ -253,7 +255,8 @@ public final class Promises1To9Test {
         x.days(3);
         x.green(9);
         Tester.see(x, 0, 0, 20);
-        t.due("the same again", Tester.crossing(x, Texts.PLAIN + Texts.kind("k", 0, 5, 4) + Texts.come("k", 20) + "learns 0-1;"), 4);
+        t.due("the same again", Tester.crossing(x, Texts.PLAIN + Texts.kind("k", 0, 5, 4) + Texts.come("k", 20)
+            + "learns 0-1;"), 4);
         Looks.state(t, "the same again", x, 0, 0, 6, 0);
         Looks.trusts(t, "the same again", x, 4);
         t.due("the same again: SEEN", x.has(6), 0);
@@ -265,7 +268,8 @@ public final class Promises1To9Test {
     }
 
     private static void fault() {
-        t.says("Promise 5", "Of the latest crossing() or ask(): its FAULT (what 0; 0 without, and ahead of any), its place (1; NONE without).");
+        t.says("Promise 5", "Of the latest crossing() or ask(): its FAULT (what 0; 0 without, and ahead of any), its "
+            + "place (1; NONE without).");
         PressAndWait x = new PressAndWait();
         faultIs("ahead of any", x, 0, -1);
         String[] marked = {"|x", "cycle |9", Texts.PLAIN + "comes a is |k at 1;", Texts.PLAIN + "learns ((((((|(1",
@@ -304,7 +308,8 @@ public final class Promises1To9Test {
     }
 
     private static void has() {
-        t.says("Promise 6", "How many there are: 0 the cycle, 1 KINDS, 2 WALKERS, 3 DAY, 4 RULE, 5 green, 6 rows SEEN, 7 ACTS that can be undone.");
+        t.says("Promise 6", "How many there are: 0 the cycle, 1 KINDS, 2 WALKERS, 3 DAY, 4 RULE, 5 green, 6 rows SEEN, "
+            + "7 ACTS that can be undone.");
         PressAndWait x = Tester.made(Texts.first(120, 60, 2, 0) + Texts.kinds(6, 0, 1, 0) + Texts.twelve("ka", 7));
         Tester.on(x, Tester.image(999, 2, 60, 0, 0, 0, 0, 0, 0));
         t.due("16 rows", Tester.see(x, new int[48]), 16);
@@ -379,7 +384,8 @@ public final class Promises1To9Test {
     private static void kind() {
         t.says("Promise 8", "Of a KIND: 0 calm, 1 pace, 2 how it trusts, 3 its WALKERS, as bits.");
         PressAndWait x = Tester.made(Texts.PLAIN + Texts.kind("a", 0, 1, 0) + Texts.kind("b", 99, 20, 9)
-            + Texts.kind("c", 50, 10, 5) + "comes e is b at 1;" + Texts.come("a", 1, 1, 1, 1, 1, 1, 1, 1, 1, 1) + "comes f is b at 1;");
+            + Texts.kind("c", 50, 10, 5) + "comes e is b at 1;" + Texts.come("a", 1, 1, 1, 1, 1, 1, 1, 1, 1, 1)
+            + "comes f is b at 1;");
         int[][] want = {{0, 1, 0, 2046}, {99, 20, 9, 2049}, {50, 10, 5, 0}};
         for (int k = 0; k < 3; k++) {
             for (int what = 0; what < 4; what++) {
@@ -402,10 +408,13 @@ public final class Promises1To9Test {
     }
 
     private static void walker() {
-        t.says("Promise 9", "Of a WALKER: 0 his KIND, 1 the SECOND in which he comes, 2 in which he crosses or GOES on this DAY (NONE when he does not), 3 SECONDS he waits, 4 whether he GOES, 5 whether he is HARMED, 6 whether he presses.");
+        t.says("Promise 9", "Of a WALKER: 0 his KIND, 1 the SECOND in which he comes, 2 in which he crosses or GOES on "
+            + "this DAY (NONE when he does not), 3 SECONDS he waits, 4 whether he GOES, 5 whether he is HARMED, 6 "
+            + "whether he presses.");
         String start = Texts.first(99, 5, 0, 0) + Texts.kinds(5, 0, 20, 0) + Texts.kind("kf", 0, 1, 9);
         PressAndWait x = Tester.made(start + "comes a is kf at 0;comes b is ka at 0;comes c is ka at 199;comes d is kf at 199;"
-            + "comes e is ka at 100;comes f is ka at 101;red second=299 and reds<2 or waited=0 and second>99 and second<102;car second=120;");
+            + "comes e is ka at 100;comes f is ka at 101;"
+            + "red second=299 and reds<2 or waited=0 and second>99 and second<102;car second=120;");
         // e and f go by a green that does not last, f is harmed; so two have gone by 299, and b and c wait on.
         int[][] want = {{5, 0, 0, 0, 0, 0, 1}, {0, 0, -1, 300, 0, 0, 0}, {0, 199, -1, 101, 0, 0, 0}, {5, 199, 199, 0, 0, 0, 0},
             {0, 100, 100, 0, 1, 0, 0}, {0, 101, 101, 0, 1, 1, 0}};

@@ -98,7 +98,8 @@ public final class Promises21To27Test {
 
     private static void refusedGreen() {
         t.says("Promise 22", "false, refused (2), when it is that, it can't be, or without a crossing.");
-        int[][] cannot = {{10, 10}, {10, 11}, {60, 60}, {61, 61}, {120, 61}, {120, 62}, {120, 120}, {120, 0}, {120, -1}, {10, 0}, {10, 5}, {120, 5}};
+        int[][] cannot = {{10, 10}, {10, 11}, {60, 60}, {61, 61}, {120, 61}, {120, 62}, {120, 120}, {120, 0},
+            {120, -1}, {10, 0}, {10, 5}, {120, 5}};
         for (int[] run : cannot) {
             Twins.refused(t, "cycle " + run[0] + ", green(" + run[1] + ")", () -> Tester.made(Texts.first(run[0], 5, 0, 0)),
                 y -> Tester.bit(y.green(run[1])), 0, 2);
@@ -135,11 +136,13 @@ public final class Promises21To27Test {
 
     private static void refusedTrust() {
         t.says("Promise 23", "false, refused (2), when it does, or there are none such.");
-        int[][] cannot = {{0, 4}, {1, 0}, {-1, 5}, {2, 5}, {6, 5}, {MIN, 5}, {MAX, 5}, {0, -1}, {0, 10}, {0, 11}, {0, MIN}, {0, MAX}, {1, 10}};
+        int[][] cannot = {{0, 4}, {1, 0}, {-1, 5}, {2, 5}, {6, 5}, {MIN, 5}, {MAX, 5}, {0, -1}, {0, 10}, {0, 11},
+            {0, MIN}, {0, MAX}, {1, 10}};
         for (int[] n : cannot) {
             refused("trust(" + n[0] + ", " + n[1] + ")", y -> Tester.bit(y.trust(n[0], n[1])), 0, 2);
         }
-        Twins.refused(t, "the 7th of six", () -> Tester.made(Texts.PLAIN + Texts.kinds(6, 0, 1, 5)), y -> Tester.bit(y.trust(6, 1)), 0, 2);
+        Twins.refused(t, "the 7th of six", () -> Tester.made(Texts.PLAIN + Texts.kinds(6, 0, 1, 5)),
+            y -> Tester.bit(y.trust(6, 1)), 0, 2);
         Twins.refused(t, "no KINDS", () -> Tester.made(Texts.PLAIN), y -> Tester.bit(y.trust(0, 1)), 0, 2);
         withoutCrossing("trust(0, 1)", y -> Tester.bit(y.trust(0, 1)), 0, 2);
         withoutCrossing("trust(0, 0)", y -> Tester.bit(y.trust(0, 0)), 0, 2);

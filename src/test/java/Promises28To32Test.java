@@ -171,7 +171,8 @@ public final class Promises28To32Test {
     }
 
     private static void on() {
-        t.says("Promise 31", "The tape (it goes) is AN IMAGE of this CROSSING: true, all is as it tells, nothing can be undone;");
+        t.says("Promise 31", "The tape (it goes) is AN IMAGE of this CROSSING: true, all is as it tells, nothing can be "
+            + "undone;");
         int[][] can = {{0, 0, 1, 0, 0}, {999, 2, 19, 9, 9}, {255, 1, 6, 0, 9}, {256, 1, 6, 9, 0}, {998, 0, 18, 1, 8}};
         for (int[] n : can) {
             PressAndWait x = Tester.made(TEXT);
@@ -218,7 +219,8 @@ public final class Promises28To32Test {
     }
 
     private static void refusedImages() {
-        t.says("Promise 31", "false, refused (5), when it is none (DAY 999, RULE 2, trusts 9 at most; a green that can be), or without a crossing, all staying.");
+        t.says("Promise 31", "false, refused (5), when it is none (DAY 999, RULE 2, trusts 9 at most; a green that can "
+            + "be), or without a crossing, all staying.");
         int[][] cannot = {Tester.image(1000, 0, 5, 1, 1), Tester.image(1001, 0, 5, 1, 1), Tester.image(1023, 0, 5, 1, 1),
             Tester.image(1024, 0, 5, 1, 1), Tester.image(65535, 0, 5, 1, 1), Tester.image(3, 3, 5, 1, 1),
             Tester.image(3, 255, 5, 1, 1), Tester.image(3, 0, 0, 1, 1), Tester.image(3, 0, 20, 1, 1),
@@ -264,7 +266,8 @@ public final class Promises28To32Test {
     }
 
     private static void status() {
-        t.says("Promise 32", "How many were refused: 0 feed(), end(); 1 crossing(), see(); 2 rule(), green(), trust(); 3 days(), chance(); 4 undo(); 5 seed(), on().");
+        t.says("Promise 32", "How many were refused: 0 feed(), end(); 1 crossing(), see(); 2 rule(), green(), trust(); "
+            + "3 days(), chance(); 4 undo(); 5 seed(), on().");
         PressAndWait x = new PressAndWait();
         statusIs("at first", x, 0, 0, 0, 0, 0, 0);
         x.end(1);
@@ -337,7 +340,8 @@ public final class Promises28To32Test {
 
     /** The 512th call is answered as the first; each refused one has been counted. */
     private static void manyCalls() {
-        t.says("What it is", "An object is used for at most 512 calls after it has been made; what later calls answer is free.");
+        t.says("What it is", "An object is used for at most 512 calls after it has been made; what later calls answer "
+            + "is free.");
         PressAndWait x = new PressAndWait();
         for (int k = 1; k <= 511; k++) {
             t.due("undo " + k, x.undo(), false);

@@ -49,7 +49,8 @@ public final class Term1Test {
     }
 
     private static void firstStatement() {
-        t.says("Term I", "cycle N green N rule N least N (10 .. 120; 1 .. 60, below the cycle; 0 .. 2; 0 .. 99; the first STATEMENT, and it alone);");
+        t.says("Term I", "cycle N green N rule N least N (10 .. 120; 1 .. 60, below the cycle; 0 .. 2; 0 .. 99; the "
+            + "first STATEMENT, and it alone);");
         int[][] can = {{10, 1, 0, 0}, {10, 9, 0, 0}, {120, 1, 2, 99}, {120, 60, 1, 98}, {61, 60, 0, 1}, {60, 59, 0, 1}};
         for (int[] n : can) {
             PressAndWait x = new PressAndWait();
@@ -187,7 +188,8 @@ public final class Term1Test {
     }
 
     private static void chains() {
-        t.says("Term I", "TEST: BOTH { or BOTH }. BOTH: FACT { and FACT }. FACT: not FACT; [ TEST ] ; all; SUM SIGN SUM, SIGN < or > or = .");
+        t.says("Term I", "TEST: BOTH { or BOTH }. BOTH: FACT { and FACT }. FACT: not FACT; [ TEST ] ; all; SUM SIGN "
+            + "SUM, SIGN < or > or = .");
         holds("all", true);
         holds("not all", false);
         holds("[all]", true);
@@ -246,7 +248,8 @@ public final class Term1Test {
     }
 
     private static void parts() {
-        t.says("Term I", "second; day; ( SUM ) ; min ( SUM , SUM ) ; max ( SUM , SUM ) ; in car: phase; in red, learns: waited; calm; pace; trusts; in red: gap; reds.");
+        t.says("Term I", "second; day; ( SUM ) ; min ( SUM , SUM ) ; max ( SUM , SUM ) ; in car: phase; in red, learns: "
+            + "waited; calm; pace; trusts; in red: gap; reds.");
         String[] words = {"second", "day", "phase", "waited", "calm", "pace", "trusts", "gap", "reds", "number", "went", "harm"};
         String car = "second day phase";
         String learns = "second day waited calm pace trusts";
@@ -453,7 +456,8 @@ public final class Term1Test {
     }
 
     private static void names() {
-        t.says("Term I", "NAMES: 1 to 6 letters, no OWN WORD, unlike ones (of all sorts), told ahead of where they are asked.");
+        t.says("Term I", "NAMES: 1 to 6 letters, no OWN WORD, unlike ones (of all sorts), told ahead of where they are "
+            + "asked.");
         t.good(2, FIRST + "kind a calm 0 pace 1 trusts 0;");
         t.good(2, FIRST + "kind zzzzzz calm 0 pace 1 trusts 0;");
         t.bad(1, FIRST + "kind zzzzzz|z calm 0 pace 1 trusts 0;");
@@ -496,7 +500,8 @@ public final class Term1Test {
     }
 
     private static void ownWords() {
-        t.says("Term I", "OWN WORDS: cycle, green, rule, least, kind, calm, pace, trusts, comes, is, at, car, red, learns, away, second, day, phase, waited, gap, reds, number, went, harm, or, and, not, all, min, max.");
+        t.says("Term I", "OWN WORDS: cycle, green, rule, least, kind, calm, pace, trusts, comes, is, at, car, red, "
+            + "learns, away, second, day, phase, waited, gap, reds, number, went, harm, or, and, not, all, min, max.");
         t.due("thirty of them", Texts.OWN_WORDS.length, 30);
         for (String word : Texts.OWN_WORDS) {
             t.bad(1, FIRST + "kind |" + word + " calm 0 pace 1 trusts 0;");
@@ -559,7 +564,9 @@ public final class Term1Test {
     }
 
     private static void wrongByte() {
-        t.says("Term I", "1 the first byte with which no such text goes on (words and numbers whole, at their first byte; where a NAME is asked, an OWN WORD so, a 7th letter at itself; where a number is asked, a 5th digit at itself;");
+        t.says("Term I", "1 the first byte with which no such text goes on (words and numbers whole, at their first "
+            + "byte; where a NAME is asked, an OWN WORD so, a 7th letter at itself; where a number is asked, a 5th "
+            + "digit at itself;");
         t.bad(1, "|cycl 20");
         t.bad(1, "|cycles 20");
         t.bad(1, "|20 cycle");
@@ -681,7 +688,8 @@ public final class Term1Test {
     }
 
     private static void tooMany() {
-        t.says("Term I", "5 one too many of a kind (a second car, red, learns, too), an 81st STATEMENT (whatever stands there), at its first byte.");
+        t.says("Term I", "5 one too many of a kind (a second car, red, learns, too), an 81st STATEMENT (whatever stands "
+            + "there), at its first byte.");
         String kinds = FIRST + Texts.kinds(6, 0, 1, 0);
         t.bad(5, kinds + "|kind");
         t.bad(5, kinds + " \n |kind ka calm 100;");
@@ -695,7 +703,8 @@ public final class Term1Test {
         String full = FIRST + Texts.times(79, "away 1;");
         t.good(80, full);
         t.good(80, full + " \n\n ");
-        for (String rest : new String[] {"away 1;", "away", "x", ";", "7", "cycle", "\t", "(", "kind k calm 1 pace 1 trusts 1;"}) {
+        for (String rest : new String[] {"away 1;", "away", "x", ";", "7", "cycle", "\t", "(",
+            "kind k calm 1 pace 1 trusts 1;"}) {
             t.bad(5, full + "|" + rest);
             t.bad(5, full + " \n|" + rest);
         }

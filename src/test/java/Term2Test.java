@@ -57,7 +57,8 @@ public final class Term2Test {
     }
 
     private static void buttonAndLeast() {
-        t.says("Term II", "By RULE 1, while it is not green, it becomes green in a SECOND in which a press is OPEN, if least SECONDS at least lie between that and the last green one");
+        t.says("Term II", "By RULE 1, while it is not green, it becomes green in a SECOND in which a press is OPEN, if "
+            + "least SECONDS at least lie between that and the last green one");
         // Green 10 and 11. Between 11 and 15 lie three: 15 is the first that can be with least 3.
         int[][] runs = {{13, 15}, {14, 15}, {15, 15}, {16, 16}, {17, 17}, {199, 199}};
         for (int[] run : runs) {
@@ -131,7 +132,8 @@ public final class Term2Test {
     }
 
     private static void byBoth() {
-        t.says("Term II", "By RULE 2 it is as by RULE 0, but in a cycle in whose phase 0 no press is OPEN it is not green at all;");
+        t.says("Term II", "By RULE 2 it is as by RULE 0, but in a cycle in whose phase 0 no press is OPEN it is not "
+            + "green at all;");
         int[][] runs = {{0, 0}, {1, 10}, {9, 10}, {10, 10}, {11, 20}, {13, 20}, {19, 20}, {20, 20}, {190, 190}, {199, 200}};
         for (int[] run : runs) {
             PressAndWait x = Tester.made(Texts.first(10, 4, 2, 99) + Texts.kind("k", 0, 4, 1) + Texts.come("k", run[0]));
@@ -166,7 +168,8 @@ public final class Term2Test {
     }
 
     private static void pressing() {
-        t.says("Term II", "FIRST WALKERS whose SECOND it is come, by numbers; who comes, if his KIND trusts (above 0), and the light was not green in the SECOND ahead, presses: a press is OPEN.");
+        t.says("Term II", "FIRST WALKERS whose SECOND it is come, by numbers; who comes, if his KIND trusts (above 0), "
+            + "and the light was not green in the SECOND ahead, presses: a press is OPEN.");
         int[][] belief = {{0, 0}, {1, 1}, {2, 1}, {9, 1}};
         for (int[] run : belief) {
             PressAndWait x = Tester.made(Texts.first(10, 3, 0, 0) + Texts.kind("k", 0, 1, run[0]) + Texts.come("k", 5));
@@ -207,7 +210,8 @@ public final class Term2Test {
     }
 
     private static void crossing() {
-        t.says("Term II", "by a green light he crosses, if the green lasts as many SECONDS as his pace, at least (this one, too);");
+        t.says("Term II", "by a green light he crosses, if the green lasts as many SECONDS as his pace, at least (this "
+            + "one, too);");
         int[][] clock = {{1, 19, 19}, {1, 20, 50}, {2, 18, 18}, {2, 19, 50}, {5, 15, 15}, {5, 16, 50}, {19, 1, 1},
             {19, 2, 50}, {20, 0, 0}, {20, 1, 50}};
         for (int[] run : clock) {
@@ -216,7 +220,8 @@ public final class Term2Test {
         }
         PressAndWait x = Tester.made(Texts.first(50, 19, 0, 0) + Texts.kind("k", 0, 20, 0) + Texts.come("k", 0));
         Looks.leaves(t, "a green one too short", x, -1);
-        int[][] others = {{20, 30, 30}, {20, 31, -1}, {19, 31, 31}, {19, 32, -1}, {1, 49, 49}, {1, 50, -1}, {2, 48, 48}, {2, 49, -1}};
+        int[][] others = {{20, 30, 30}, {20, 31, -1}, {19, 31, 31}, {19, 32, -1}, {1, 49, 49}, {1, 50, -1},
+            {2, 48, 48}, {2, 49, -1}};
         for (int rule = 1; rule <= 2; rule++) {
             for (int[] run : others) {
                 // The first one presses at 30 (phase 0 of cycle 30): green 30 to 49. The other does not press.
@@ -228,7 +233,8 @@ public final class Term2Test {
     }
 
     private static void going() {
-        t.says("Term II", "by red, or if it does not, he GOES, if the TEST of red holds (without it never; also by green):");
+        t.says("Term II", "by red, or if it does not, he GOES, if the TEST of red holds (without it never; also by "
+            + "green):");
         String start = Texts.first(50, 5, 0, 0) + Texts.kind("k", 0, 5, 0);
         PressAndWait x = Tester.made(start + Texts.come("k", 0, 1, 4, 5, 49) + "red all;");
         // 0 crosses; 1 and 4 go by a green that does not last; 5 and 49 by red.
@@ -270,7 +276,8 @@ public final class Term2Test {
             t.due("day(2)", x.day(2), run[2]);
         }
         // Who crosses by green is not HARMED; without cars none is.
-        PressAndWait x = Tester.made(Texts.first(120, 60, 0, 0) + Texts.kind("k", 0, 20, 0) + Texts.come("k", 0) + "car all;red all;");
+        PressAndWait x = Tester.made(Texts.first(120, 60, 0, 0) + Texts.kind("k", 0, 20, 0) + Texts.come("k", 0)
+            + "car all;red all;");
         t.due("by green", x.day(2), 0);
         x = Tester.made(Texts.first(120, 1, 1, 0) + Texts.kind("k", 0, 20, 0) + Texts.come("k", 0) + "red all;");
         t.due("goes without cars", x.day(1), 1);
@@ -324,7 +331,8 @@ public final class Term2Test {
     }
 
     private static void learning() {
-        t.says("Term II", "Behind a DAY, WALKER by WALKER who came, how his KIND trusts becomes more by the SUM of learns (below 0, too; by what he waited, 0 .. 9; 0 without).");
+        t.says("Term II", "Behind a DAY, WALKER by WALKER who came, how his KIND trusts becomes more by the SUM of "
+            + "learns (below 0, too; by what he waited, 0 .. 9; 0 without).");
         for (int before = 0; before <= 9; before++) {
             String one = Texts.kind("k", 0, 5, before) + Texts.come("k", 20);
             trustsThen(one, before);
@@ -350,7 +358,8 @@ public final class Term2Test {
         trustsThen(Texts.kind("k", 0, 5, 0) + Texts.come("k", 199) + "learns waited-96;", 5);
         trustsThen(Texts.kind("k", 0, 5, 0) + Texts.come("k", 0) + "red second=299;learns waited-295;", 4);
         // Who does not come does not learn.
-        PressAndWait x = Tester.made(Texts.first(60, 10, 1, 0) + Texts.kind("k", 0, 5, 4) + Texts.come("k", 20) + "learns 1;away 100;");
+        PressAndWait x = Tester.made(Texts.first(60, 10, 1, 0) + Texts.kind("k", 0, 5, 4) + Texts.come("k", 20)
+            + "learns 1;away 100;");
         x.chance(3);
         Looks.trusts(t, "who did not come", x, 4);
         x.days(1);
@@ -510,7 +519,8 @@ public final class Term2Test {
     }
 
     private static void draws() {
-        t.says("Term II", "A DRAW of m: x (the seed) becomes (1103515245 x + 12345) mod 2 to the 31; floor(x / 64) mod m.");
+        t.says("Term II", "A DRAW of m: x (the seed) becomes (1103515245 x + 12345) mod 2 to the 31; floor(x / 64) mod "
+            + "m.");
         String text = Texts.first(60, 10, 1, 0) + Texts.kind("k", 0, 5, 4) + Texts.twelve("k", 20);
         int[] seeds = {0, 1, 2, 63, 64, 65535, 1 << 30, Integer.MAX_VALUE - 1, Integer.MAX_VALUE};
         for (int start : seeds) {

@@ -20,7 +20,8 @@ public final class Term3Test {
     }
 
     private static void whatIsTold() {
-        t.says("Term III", "Of a DAY are told SECONDS waited by all (who has not crossed, too), who GO at red, who are HARMED, who have not crossed,");
+        t.says("Term III", "Of a DAY are told SECONDS waited by all (who has not crossed, too), who GO at red, who are "
+            + "HARMED, who have not crossed,");
         String never = Texts.first(10, 5, 1, 0) + Texts.kind("k", 0, 20, 0);
         Looks.dayIs(t, "nobody", Tester.made(never), 0, 0, 0, 0, 0, 0);
         Looks.dayIs(t, "one waits all DAY", Tester.made(never + Texts.come("k", 0)), 300, 0, 0, 1, 0, 0);
@@ -60,8 +61,10 @@ public final class Term3Test {
         // By the button: a green that nobody gets.
         String button = Texts.first(100, 10, 1, 0) + Texts.kind("k", 0, 11, 1);
         t.due("too slow for it", Tester.made(button + Texts.come("k", 5)).day(4), 1);
-        t.due("another gets it", Tester.made(button + Texts.kind("l", 0, 1, 0) + "comes a is k at 5;comes b is l at 14;").day(4), 0);
-        t.due("another comes behind it", Tester.made(button + Texts.kind("l", 0, 1, 0) + "comes a is k at 5;comes b is l at 15;").day(4), 1);
+        t.due("another gets it", Tester.made(button + Texts.kind("l", 0, 1, 0)
+            + "comes a is k at 5;comes b is l at 14;").day(4), 0);
+        t.due("another comes behind it", Tester.made(button + Texts.kind("l", 0, 1, 0)
+            + "comes a is k at 5;comes b is l at 15;").day(4), 1);
     }
 
     private static void bestIs(String name, PressAndWait x, int harmed, int rule, int green, int waited) {
@@ -177,11 +180,13 @@ public final class Term3Test {
         String start = Texts.first(120, 1, 0, 0) + Texts.kind("k", 0, 3, 0) + Texts.kind("l", 0, 20, 0);
         t.due("the slowest of two", Tester.made(start + "comes a is k at 0;comes b is l at 0;").least(), 20);
         t.due("all twelve", Tester.made(start + Texts.twelve("l", 5) + "red all;").least(), 25);
-        t.due("the last of twelve", Tester.made(start + Texts.come("k", 0, 0, 0, 0, 0, 0, 0, 0, 0, 0, 0, 9) + "red all;").least(), 12);
+        t.due("the last of twelve", Tester.made(start + Texts.come("k", 0, 0, 0, 0, 0, 0, 0, 0, 0, 0, 0, 9)
+            + "red all;").least(), 12);
     }
 
     private static void hold() {
-        t.says("Term III", "HOLD is a set of WALKERS (3 at most) who never GO on this DAY, by whom none GOES: of the fewest, of like ones the least bits.");
+        t.says("Term III", "HOLD is a set of WALKERS (3 at most) who never GO on this DAY, by whom none GOES: of the "
+            + "fewest, of like ones the least bits.");
         String start = Texts.first(60, 5, 0, 0) + Texts.kind("k", 0, 5, 0);
         t.due("nobody", Tester.made(start).hold(), 0);
         t.due("none goes", Tester.made(start + Texts.twelve("k", 10)).hold(), 0);
@@ -216,7 +221,8 @@ public final class Term3Test {
 
     private static void ahead() {
         t.says("Term III", "AHEAD are DAYS as they come from now on without DRAWS (30 at most, not beyond DAY 999).");
-        String text = Texts.first(60, 10, 1, 0) + Texts.kind("k", 0, 5, 0) + Texts.come("k", 20) + "car day>28;red day>0;away 100;";
+        String text = Texts.first(60, 10, 1, 0) + Texts.kind("k", 0, 5, 0) + Texts.come("k", 20)
+            + "car day>28;red day>0;away 100;";
         PressAndWait x = Tester.made(text);
         t.due("DAY 0", x.later(0, 1), 0);
         t.due("DAY 1", x.later(1, 1), 1);
@@ -245,7 +251,8 @@ public final class Term3Test {
     }
 
     private static void seen() {
-        t.says("Term III", "SEEN are rows of WALKER, SECOND (two bytes; 65535: not at all) in which he crossed or went on this DAY:");
+        t.says("Term III", "SEEN are rows of WALKER, SECOND (two bytes; 65535: not at all) in which he crossed or went "
+            + "on this DAY:");
         PressAndWait x = one(120, 0, 1, 0, 0, "");
         Tester.see(x, 0, 0, 0);
         fitsAre("crossed in SECOND 0", x, 20, 1, 1);
@@ -306,7 +313,8 @@ public final class Term3Test {
     }
 
     private static void watched() {
-        t.says("Term III", "WATCHED is the WALKER by whose SECOND, whatever it is, the most of these left are fewest; of like ones the first.");
+        t.says("Term III", "WATCHED is the WALKER by whose SECOND, whatever it is, the most of these left are fewest; "
+            + "of like ones the first.");
         String start = Texts.first(120, 1, 0, 0) + Texts.kind("k", 0, 1, 0);
         watchedIs("nobody", Tester.made(start), -1, -1);
         // By the clock alone; at 0: 20 at once, 40 not at all. At 10: 10 at once, 10 at 120, 40 not at all.

@@ -38,7 +38,8 @@ public final class Term4Test {
     }
 
     private static void firstAndLast() {
-        t.says("Term IV", "A QUESTION is a text, of all WALKERS on this DAY: first TEST, last TEST (the first, the last WALKER for whom it holds),");
+        t.says("Term IV", "A QUESTION is a text, of all WALKERS on this DAY: first TEST, last TEST (the first, the last "
+            + "WALKER for whom it holds),");
         PressAndWait x = Tester.made(FULL);
         is(x, "first all", 0);
         is(x, "last all", 11);
@@ -105,7 +106,8 @@ public final class Term4Test {
     }
 
     private static void whichParts() {
-        t.says("Term IV", "TEST, SUM as in I, but PART: N; number; second; waited; went; harm; calm; pace; trusts; day; kind PART; ( SUM ) ; min ( SUM , SUM ) ; max ( SUM , SUM ) .");
+        t.says("Term IV", "TEST, SUM as in I, but PART: N; number; second; waited; went; harm; calm; pace; trusts; day; "
+            + "kind PART; ( SUM ) ; min ( SUM , SUM ) ; max ( SUM , SUM ) .");
         String allowed = " number second waited went harm calm pace trusts day ";
         for (String word : Texts.OWN_WORDS) {
             PressAndWait x = Tester.made(FULL);
@@ -135,7 +137,8 @@ public final class Term4Test {
     }
 
     private static void whatTheyAre() {
-        t.says("Term IV", "(His number, the SECOND in which he comes, SECONDS he waits; 1 if he GOES, else 0; 1 if he is HARMED, else 0; 1 if he is of the KIND of that number, else 0.)");
+        t.says("Term IV", "(His number, the SECOND in which he comes, SECONDS he waits; 1 if he GOES, else 0; 1 if he "
+            + "is HARMED, else 0; 1 if he is of the KIND of that number, else 0.)");
         PressAndWait x = Tester.made(FULL);
         is(x, "total second", 660);
         is(x, "most second", 110);
@@ -216,7 +219,8 @@ public final class Term4Test {
         bad(1, "total 1 |or all");
         bad(1, "total 1 |\0");
         // What ends too soon, at its length.
-        for (String question : new String[] {"first not [ all or 1 + 2 < 3 ] and all", "total min ( 1 , kind 2 * 3 ) - max ( 4 , 5 )",
+        for (String question : new String[] {"first not [ all or 1 + 2 < 3 ] and all",
+            "total min ( 1 , kind 2 * 3 ) - max ( 4 , 5 )",
             "least ( number )"}) {
             String[] pieces = question.split(" ");
             StringBuilder text = new StringBuilder();
@@ -238,7 +242,8 @@ public final class Term4Test {
     }
 
     private static void tooDeep() {
-        t.says("Term IV", "4 the 7th of ( [ not kind that is open at once (not until its FACT, kind until its PART ends), at it.");
+        t.says("Term IV", "4 the 7th of ( [ not kind that is open at once (not until its FACT, kind until its PART "
+            + "ends), at it.");
         PressAndWait x = Tester.made(FULL);
         is(x, "total ((((((1))))))", 12);
         is(x, "often [[[[[[all]]]]]]", 12);
