@@ -52,10 +52,8 @@ public final class DayTest {
         Looks.greenIn(t, "button", x, 5, 7, 13, 15, 30, 32);
         Looks.leaves(t, "button", x, 5, 6, 13, 13, 13, 30);
         Looks.dayIs(t, "button", x, 3 + 6 + 5 + 4, 0, 0, 0, 0, 3);
-        int[] presses = {1, 0, 0, 0, 1, 1};
-        for (int w = 0; w < presses.length; w++) {
-            t.due("button: walker(" + w + ", 6)", x.walker(w, 6), presses[w]);
-        }
+        Looks.presses(t, "button", x, 1, 0, 0, 0, 1, 1);
+        x = Tester.made(Texts.first(20, 3, 1, 5) + walkers);
         x.trust(0, 0);
         Looks.greenIn(t, "button, no belief", x);
         Looks.dayIs(t, "button, no belief", x, 6 * 300 - 62, 0, 0, 6, 0, 0);

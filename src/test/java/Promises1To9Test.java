@@ -221,9 +221,7 @@ public final class Promises1To9Test {
         for (String text : texts) {
             Twins.alike(t, "behind many [" + text + "]", () -> {
                 PressAndWait x = Tester.made(rich);
-                for (int k = 0; k < 3; k++) {
-                    Tester.crossing(x, rich);
-                }
+                Tester.crossing(x, rich);
                 Tester.crossing(x, rich + "x");
                 x.seed(123);
                 Tester.crossing(x, text);

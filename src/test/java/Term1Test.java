@@ -144,6 +144,19 @@ public final class Term1Test {
         t.bad(5, FIRST + "car all;red all;learns 0;|car all;");
         t.bad(5, FIRST + "car all;red all;learns 0;|red all;");
         t.bad(5, FIRST + "car all;red all;learns 0;|learns 0;");
+        // In any order, with others between: each is what it tells.
+        String[] one = {"car second=9;", "red waited=3;", "learns 7-waited;"};
+        int[][] orders = {{0, 1, 2}, {0, 2, 1}, {1, 0, 2}, {1, 2, 0}, {2, 0, 1}, {2, 1, 0}};
+        for (int[] o : orders) {
+            String text = FIRST + one[o[0]] + Texts.kind("k", 0, 2, 0) + one[o[1]] + Texts.come("k", 6) + one[o[2]] + "away 1;";
+            PressAndWait x = Tester.made(text);
+            t.due("its car: " + text, x.car(9), 1);
+            t.due("no other car: " + text, x.car(8), 0);
+            t.due("its red: " + text, x.walker(0, 2), 9);
+            t.due("its harm: " + text, x.walker(0, 5), 1);
+            x.days(1);
+            t.due("its learns: " + text, x.kind(0, 2), 4);
+        }
         t.bad(1, FIRST + "car|;");
         t.bad(1, FIRST + "red|;");
         t.bad(1, FIRST + "learns|;");
