@@ -79,7 +79,7 @@ public final class FaultTest {
         tokens.addAll(told.tokens);
     }
 
-    /** Up to eight that open; seldom are they closed again, but where that is wrong has been told by then. */
+    /** Up to eight that open. Nothing closes them: so the text has FAULT 4, or goes wrong behind its TEST. */
     private static List<String> deep(Random dice, String one, String other) {
         List<String> tokens = new ArrayList<>();
         for (int k = dice.nextInt(3) == 0 ? dice.nextInt(9) : 0; k > 0; k--) {

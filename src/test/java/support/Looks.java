@@ -42,7 +42,7 @@ final class Looks {
         t.due(name + ": day(-1)", x.day(-1), -1);
     }
 
-    /** how each KIND trusts, from the first on. */
+    /** How each KIND trusts, from the first on. */
     static void trusts(Tester t, String name, PressAndWait x, int... want) {
         for (int k = 0; k < want.length; k++) {
             t.due(name + ": kind(" + k + ", 2)", x.kind(k, 2), want[k]);
