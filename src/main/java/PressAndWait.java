@@ -769,15 +769,27 @@ public final class PressAndWait {
             this.plan = plan;
         }
 
+        /** A text without a STATEMENT goes wrong where its first word is asked: at its length. */
         void readCrossing(Plan draft, int size) {
             begin(draft, size);
-            int count = 0;
-            while (sort != END && count <= MOST_STATEMENTS) {
-                statement(count);
+            firstStatement();
+            need(';');
+            int count = 1;
+            while (sort != END && count < MOST_STATEMENTS) {
+                switch (wordIn(STATEMENTS)) {
+                    case 0: kindStatement(); break;
+                    case 1: comesStatement(); break;
+                    case 2: codeStatement(CAR, IN_CAR); break;
+                    case 3: codeStatement(RED, IN_RED); break;
+                    case 4: codeStatement(LEARNS, OF_WALKER); break;
+                    case 5: draft.away = numberBehind("away", 0, 100); break;
+                    default: fail(WRONG_TEXT, at);
+                }
+                need(';');
                 count++;
             }
-            if (count == 0) {
-                fail(WRONG_TEXT, length);
+            if (sort != END) {
+                fail(TOO_MANY, at);
             }
             draft.statements = count;
         }
@@ -820,27 +832,6 @@ public final class PressAndWait {
             at = length;
             behind = length;
             sort = END;
-        }
-
-        private void statement(int count) {
-            if (count >= MOST_STATEMENTS) {
-                fail(TOO_MANY, at);
-                return;
-            }
-            if (count == 0) {
-                firstStatement();
-            } else {
-                switch (wordIn(STATEMENTS)) {
-                    case 0: kindStatement(); break;
-                    case 1: comesStatement(); break;
-                    case 2: codeStatement(CAR, IN_CAR); break;
-                    case 3: codeStatement(RED, IN_RED); break;
-                    case 4: codeStatement(LEARNS, OF_WALKER); break;
-                    case 5: plan.away = numberBehind("away", 0, 100); break;
-                    default: fail(WRONG_TEXT, at);
-                }
-            }
-            need(';');
         }
 
         private void firstStatement() {
@@ -1135,29 +1126,22 @@ public final class PressAndWait {
                 return NONE;
             }
             int word = 0;
-            int from = 0;
+            int next = at;
+            boolean alike = true;
             for (int k = 0; k <= list.length(); k++) {
                 if (k == list.length() || list.charAt(k) == ' ') {
-                    if (matches(list, from, k)) {
+                    if (alike && next == behind) {
                         return word;
                     }
                     word++;
-                    from = k + 1;
+                    next = at;
+                    alike = true;
+                } else {
+                    alike = alike && next < behind && text[next] == list.charAt(k);
+                    next++;
                 }
             }
             return NONE;
-        }
-
-        private boolean matches(String list, int from, int to) {
-            if (to - from != behind - at) {
-                return false;
-            }
-            for (int k = from; k < to; k++) {
-                if (list.charAt(k) != text[at + k - from]) {
-                    return false;
-                }
-            }
-            return true;
         }
 
         private void need(char sign) {

@@ -6,8 +6,12 @@ import java.lang.reflect.Method;
 import java.lang.reflect.Modifier;
 import java.nio.file.Files;
 import java.nio.file.Path;
+import java.util.ArrayList;
 import java.util.Arrays;
+import java.util.List;
+import java.util.Map;
 import java.util.Set;
+import java.util.TreeMap;
 import java.util.TreeSet;
 import java.util.regex.Matcher;
 import java.util.regex.Pattern;
@@ -29,6 +33,7 @@ public final class LanguageTest {
         String source = withoutComments(Files.readString(Path.of("src/main/java/PressAndWait.java")));
         words(source);
         methods(source);
+        t.due("calls that are no recursion go eight deep at most, not " + calls(source), calls(source).size() <= 8, true);
         room();
         t.finish();
     }
@@ -113,18 +118,72 @@ public final class LanguageTest {
     }
 
     /** A method begins where its line ends in ") {", four or eight blanks in, and ends with such a }. */
+    private static Map<String, String> bodies(String source) {
+        Map<String, String> bodies = new TreeMap<>();
+        Matcher head = Pattern.compile("(?ms)^( {4}| {8})(?! )[\\w\\[\\] ]*?(\\w+)\\([^;{]*\\) \\{$(.*?)^\\1\\}$")
+            .matcher(source);
+        while (head.find()) {
+            bodies.merge(head.group(2), head.group(3), String::concat);
+        }
+        return bodies;
+    }
+
     private static void methods(String source) {
-        String[] lines = source.split("\n");
-        Matcher head = Pattern.compile("^( {4}| {8})(?! )[\\w\\[\\] ]+\\([^;]*\\) \\{$").matcher("");
-        for (int k = 0; k < lines.length; k++) {
-            if (head.reset(lines[k]).matches()) {
-                int end = k;
-                while (end < lines.length && !lines[end].equals(head.group(1) + "}")) {
-                    end++;
+        Map<String, String> bodies = bodies(source);
+        t.due("the methods are found", bodies.keySet().containsAll(Set.of("feed", "status", "lay", "part")), true);
+        for (Map.Entry<String, String> method : bodies.entrySet()) {
+            t.due(method.getKey() + " has sixty lines at most", method.getValue().split("\n").length <= 60, true);
+        }
+    }
+
+    /**
+     * The longest chain of calls among the methods of the file, told by their names; those that call
+     * one another, straight or over others, count as one.
+     */
+    private static List<String> calls(String source) {
+        Map<String, String> bodies = bodies(source);
+        Map<String, Set<String>> reached = new TreeMap<>();
+        for (String name : bodies.keySet()) {
+            Set<String> called = new TreeSet<>();
+            Matcher call = Pattern.compile("(?<!new )\\b(\\w+)\\(").matcher(bodies.get(name));
+            while (call.find()) {
+                if (bodies.containsKey(call.group(1))) {
+                    called.add(call.group(1));
                 }
-                t.due(lines[k].trim() + " has sixty lines at most", end - k + 1 <= 60, true);
+            }
+            reached.put(name, called);
+        }
+        for (String over : bodies.keySet()) {
+            for (Set<String> called : reached.values()) {
+                if (called.contains(over)) {
+                    called.addAll(reached.get(over));
+                }
             }
         }
+        List<String> longest = List.of();
+        Map<String, List<String>> chains = new TreeMap<>();
+        for (String name : bodies.keySet()) {
+            List<String> chain = chain(name, reached, chains);
+            longest = chain.size() > longest.size() ? chain : longest;
+        }
+        return longest;
+    }
+
+    private static List<String> chain(String name, Map<String, Set<String>> reached, Map<String, List<String>> known) {
+        if (known.containsKey(name)) {
+            return known.get(name);
+        }
+        List<String> below = List.of();
+        for (String called : reached.get(name)) {
+            if (!reached.get(called).contains(name)) {
+                List<String> chain = chain(called, reached, known);
+                below = chain.size() > below.size() ? chain : below;
+            }
+        }
+        List<String> all = new ArrayList<>(List.of(name));
+        all.addAll(below);
+        known.put(name, all);
+        return all;
     }
 
     /** All calls of a run live in one room: an object takes little of it, and no call takes any more. */
