@@ -10,6 +10,7 @@ public final class AskTest {
         faults();
         withoutCrossing();
         withoutWalkers();
+        cutQuestions();
         t.finish();
     }
 
@@ -158,5 +159,28 @@ public final class AskTest {
         is(x, "total 5", 0);
         is(x, "most 5", 0);
         is(x, "least 5", 0);
+    }
+
+    /** A question cut anywhere answers alike, whatever stands behind its end on the tape. */
+    private static void cutQuestions() {
+        String[] questions = {"often not[number=1]and kind 0=1 or harm<went", "least min(waited,trusts)+max(calm,9999)/pace",
+            "first second>0012*day", "most kind(number)", "last all", "total waited"};
+        for (String whole : questions) {
+            for (int n = 0; n <= whole.length(); n++) {
+                PressAndWait blanks = Tester.made(TEXT);
+                long due = Tester.ask(blanks, whole.substring(0, n));
+                PressAndWait rest = Tester.made(TEXT);
+                Tester.tape(rest, whole);
+                rest.end(n);
+                t.due(whole + " cut off at " + n, rest.ask(), due);
+                t.due(whole + " cut off at " + n + ", its place", rest.fault(1), blanks.fault(1));
+                PressAndWait full = Tester.made(TEXT);
+                t.due(whole + " to " + n + ", tape full",
+                    Tester.ask(full, Texts.times(1600 - n, " ") + whole.substring(0, n)), due);
+                int place = blanks.fault(0) == 0 ? -1 : blanks.fault(1) + 1600 - n;
+                t.due(whole + " to " + n + ", tape full, its place", full.fault(1), place);
+                t.due(whole + " to " + n + ", tape full, which", full.fault(0), blanks.fault(0));
+            }
+        }
     }
 }

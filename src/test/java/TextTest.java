@@ -15,6 +15,7 @@ public final class TextTest {
         tooMany();
         whatStays();
         whatItHas();
+        cutTexts();
         t.finish();
     }
 
@@ -61,6 +62,39 @@ public final class TextTest {
         t.due("a byte above 127", x.feed(-1, -1, -1, -1, -1), 40);
         t.due("crossing of such bytes", x.crossing(), -1);
         t.due("the tape is gone with a fault, too", x.feed(0, 0, 0, 0, 0), 20);
+    }
+
+    /**
+     * A text cut anywhere goes wrong alike, whatever stands behind its end: blanks, the rest of it that
+     * end() has cut off, or nothing, as the tape is full.
+     */
+    private static void cutTexts() {
+        String whole = KIND + "kind abcdef calm 99 pace 20 trusts 9;comes wa is k at 199;comes wb is abcdef at 0;"
+            + "car phase>3 or second<9999 and[not all];red waited+calm*pace-trusts/gap=min(reds,1);"
+            + "learns max(waited,day)-0003;away 100;";
+        for (int n = 0; n <= whole.length(); n++) {
+            PressAndWait blanks = new PressAndWait();
+            int due = Tester.crossing(blanks, whole.substring(0, n));
+            PressAndWait rest = new PressAndWait();
+            Tester.tape(rest, whole);
+            t.due("end(" + n + ")", rest.end(n), true);
+            t.due(n + " bytes of all", rest.crossing(), due);
+            PressAndWait full = new PressAndWait();
+            t.due(n + " bytes at the tape's end", Tester.crossing(full, filledUp(whole, n)), due);
+            alike(n, blanks, rest, full);
+        }
+    }
+
+    private static String filledUp(String whole, int n) {
+        return Texts.times(1600 - n, " ") + whole.substring(0, n);
+    }
+
+    private static void alike(int n, PressAndWait blanks, PressAndWait rest, PressAndWait full) {
+        boolean good = blanks.fault(0) == 0;
+        t.due(n + ": which FAULT, cut off", rest.fault(0), blanks.fault(0));
+        t.due(n + ": which FAULT, tape full", full.fault(0), blanks.fault(0));
+        t.due(n + ": its place, cut off", rest.fault(1), blanks.fault(1));
+        t.due(n + ": its place, tape full", full.fault(1), good ? -1 : blanks.fault(1) + 1600 - n);
     }
 
     private static void goodTexts() {
